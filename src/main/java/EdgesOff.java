@@ -244,9 +244,9 @@ public final class EdgesOff {
             return BAD;
         }
         int best = 0;
-        int fewest = behindWhichRoundFrom(piece, 0);
-        for (int place = 1; place < PLACES; place++) {
-            int behind = behindWhichRoundFrom(piece, place);
+        int fewest = MOST_TIDES + 1;
+        for (int place = 0; place < PLACES; place++) {
+            int behind = behindWhichRoundFrom(piece, place, fewest);
             if (behind < fewest) {
                 best = place;
                 fewest = behind;
@@ -515,16 +515,17 @@ public final class EdgesOff {
         return NONE;
     }
 
-    private int behindWhichRoundFrom(int piece, int place) {
+    /** Looked for below a bound, since only fewer than were found elsewhere count. */
+    private int behindWhichRoundFrom(int piece, int place, int bound) {
         thought.becomes(now);
         thought.place[piece] = place;
-        for (int behind = 0; behind <= MOST_TIDES; behind++) {
+        for (int behind = 0; behind < bound; behind++) {
             if (thought.sharp[piece] == 0) {
                 return behind;
             }
             thought.passes();
         }
-        return MOST_TIDES + 1;
+        return bound;
     }
 
     private int howManyRoundBySeed(int seed, int n) {
@@ -696,7 +697,8 @@ public final class EdgesOff {
         /** All is told of all ahead, since what is done to one may change what is told of another. */
         void passes() {
             for (int i = 0; i < size; i++) {
-                worn[i] = wornOff(i);
+                // of one that is round no text need be asked
+                worn[i] = sharp[i] == 0 ? 0 : wornOff(i);
                 on[i] = carriedOn(i);
             }
             for (int i = 0; i < size; i++) {
@@ -730,19 +732,19 @@ public final class EdgesOff {
         }
 
         int carriedOn(int piece) {
+            if (kind[piece] == FRESH || kind[piece] == GRACE && sharp[piece] == 0) {
+                return 0;
+            }
             namesAlone(piece);
             int v = bounded(texts.valueOf(rule, CARRIES), -FARTHEST, FARTHEST);
             switch (kind[piece]) {
                 case GREEN:
+                case GRACE:
                     return v + number[piece];
                 case BROWN:
                     return -v;
-                case GRACE:
-                    return sharp[piece] != 0 ? v + number[piece] : 0;
                 case JUDAS:
                     return side[piece] == 1 ? 6 - v : -v;
-                case FRESH:
-                    return 0;
                 default:
                     return v;
             }
@@ -958,7 +960,7 @@ public final class EdgesOff {
         }
 
         int fewestWithoutLeftOut() {
-            return size == 0 ? 0 : fewestWithout(leftOut());
+            return fewestWithout(leftOut());
         }
     }
 

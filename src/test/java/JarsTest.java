@@ -171,7 +171,10 @@ public final class JarsTest {
     private static void meanIsInLowestTerms() {
         EdgesOff x = new EdgesOff();
         C.due("mean of none", x.mean(0), EdgesOff.NO);
-        x.piece(0, 0, 0, 0);
+        x.piece(0, 0, 7, 0);
+        C.due("mean of one, above", x.mean(0), 7);
+        C.due("mean of one, below", x.mean(1), 1);
+        x.set(2, 0, 0);
         x.piece(0, 0, 0, 0);
         C.due("mean 0, above", x.mean(0), 0);
         C.due("mean 0, below", x.mean(1), 1);

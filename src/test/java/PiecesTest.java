@@ -143,10 +143,10 @@ public final class PiecesTest {
 
     private static void wearsByKind() {
         // three at one place, v 7: so two others with each
-        for (int tide = 0; tide <= 1; tide++) {
+        for (int tide = 0; tide <= 4; tide++) {
             EdgesOff x = Check.under("7", "1", "1");
             x.set(0, 0, tide);
-            int[] due = {7, 9, 3, 18, tide == 0 ? 0 : 3, 7};
+            int[] due = {7, 9, 3, 18, tide == 1 || tide == 3 ? 3 : 0, 7};
             x.piece(0, 0, 0, 5);
             x.piece(0, 0, 0, 5);
             x.piece(0, 0, 0, 6);
@@ -218,12 +218,14 @@ public final class PiecesTest {
     private static void clashesByKind() {
         // others: 1 of the same SIDE and NUMBER, 2 of another SIDE, 3 of another NUMBER, 4 ROUND, 5 FRESH of the same
         int[][] due = {
-            {4, 4, 4}, {8, 8, 8}, {20, 20, 20}, {0, 0, 0}, {0, 20, 20}, {30, 30, 30}};
+            {4, 4, 4, 4, 4}, {8, 8, 8, 8, 8}, {20, 20, 20, 20, 20}, {0, 0, 0, 0, 0}, {0, 20, 20, 0, 20},
+            {30, 30, 30, 30, 30}};
         int[][] dueIfNo = {
-            {0, 0, 0}, {0, 0, 0}, {16, 16, 16}, {0, 0, 0}, {0, 16, 16}, {30, 30, 30}};
+            {0, 0, 0, 0, 0}, {0, 0, 0, 0, 0}, {16, 16, 16, 16, 16}, {0, 0, 0, 0, 0}, {0, 16, 16, 0, 16},
+            {30, 30, 30, 30, 30}};
         for (int yes = 0; yes <= 1; yes++) {
             for (int kind = 0; kind <= 5; kind++) {
-                for (int tide = 0; tide <= 2; tide++) {
+                for (int tide = 0; tide <= 4; tide++) {
                     EdgesOff x = Check.under("1", "1", yes == 1 ? "-3" : "0");
                     x.piece(kind, 1, 9, 0);
                     x.piece(0, 1, 9, 0);

@@ -8,6 +8,8 @@ public final class TextsTest {
         textsAreNumbered();
         fullKeepsTheTape();
         faultsTellThePlace();
+        theTapeHasNothingOfOneBefore();
+        theTapeMayBeFull();
         opensAreCounted();
         valuesOfExpressions();
         namesTellThePieces();
@@ -86,6 +88,15 @@ public final class TextsTest {
         fault("wears wears" + end, 6);
         fault("wears notsharp" + end, 6);
         fault("wears Sharp" + end, 6);
+        fault("wears sharpz" + end, 6);
+        fault("wears asharp" + end, 6);
+        fault("wears placesxy" + end, 6);
+        fault("wears abcdefghijklmnopqrstuvwxyz" + end, 6);
+        fault("wears clashesx" + end, 6);
+        fault("wears notaword" + end, 6);
+        fault("wears z" + end, 6);
+        fault("wears sharp`" + end, 11);
+        fault("wears 1:" + end, 7);
         fault("Wears 1" + end, 0);
         fault("wears 1/2" + end, 7);
         fault("wears 1\r;" + end, 7);
@@ -117,6 +128,33 @@ public final class TextsTest {
         fault("wears (not 1)+2" + end, -1);
         fault("wears (1<2)<3" + end, -1);
         fault("wears 1<2 and 2=3 or 1=1" + end, -1);
+    }
+
+    private static void theTapeHasNothingOfOneBefore() {
+        EdgesOff x = new EdgesOff();
+        C.due("a longer one", Check.read(x, "wears sharpsharpsharp;"), -106);
+        C.due("a shorter one", Check.read(x, "wears sha"), -106);
+        C.due("one that ends in a word", Check.read(x, "wears sharp"), -111);
+        C.due("a longer one of digits", Check.read(x, "wears 9999999;"), -106);
+        C.due("one that ends in digits", Check.read(x, "wears 99"), -108);
+        C.due("a longer one of blanks", Check.read(x, "             ?"), -113);
+        C.due("one that ends in blanks", Check.read(x, "wears  "), -107);
+    }
+
+    private static void theTapeMayBeFull() {
+        String text = "wears 7;carries 1;clashes 1;";
+        fault(text + " ".repeat(160 - text.length()), -1);
+        fault(" ".repeat(160 - text.length()) + text, -1);
+        fault("wears " + "1".repeat(154), 6);
+        fault("wears 1+" + "a".repeat(152), 8);
+        fault("wears 1+" + "1+".repeat(73) + "sharp*", 160);
+        fault("wears 1+" + "1+".repeat(73) + " sharp", 160);
+        fault("wears 1+" + "1+".repeat(74) + "1234", 160);
+        fault(" ".repeat(160), 160);
+        // as many tokens as can be
+        fault("wears" + "-1".repeat(65) + ";carries1;clashes1;", -1);
+        fault("wears1" + "*1".repeat(67) + ";carries1;clashes1;", -1);
+        value("1" + "+1".repeat(64), 65);
     }
 
     private static void opensAreCounted() {
@@ -168,6 +206,9 @@ public final class TextsTest {
         value("0 or 0", 0);
         value("7 and 8", 1);
         value("7 and 0", 0);
+        value("1 and 1", 1);
+        value("1 or 1", 1);
+        value("0 or 1", 1);
         value("1 or 1 and 0", 1);
         value("(1 or 1) and 0", 0);
         value("not 0 and 0", 0);

@@ -11,6 +11,7 @@ public final class TidesTest {
         runRefuses();
         allOfNone();
         allOfSome();
+        farOutIsFromAllOthers();
         whenHasABound();
         meetIsFirst();
         meetRefuses();
@@ -118,7 +119,25 @@ public final class TidesTest {
         x.set(3, 2, 0);
         x.set(3, 3, 0);
         C.due("all(3) of like ones", x.all(3), 0);
+        x.set(3, 0, 6);
+        x.set(3, 1, 2);
+        C.due("all(3), the first of them", x.all(3), 0);
+        x.set(3, 0, 3);
+        C.due("all(3), APART from the first too", x.all(3), 0);
+        x.set(3, 0, 0);
+        C.due("all(3), the second", x.all(3), 1);
         C.due("TIDE stays", x.count(2), 0);
+    }
+
+    private static void farOutIsFromAllOthers() {
+        EdgesOff x = new EdgesOff();
+        x.piece(0, 0, 7, 0);
+        C.due("all(3) of one", x.all(3), 0);
+        x.piece(0, 0, 7, 6);
+        x.piece(0, 0, 7, 1);
+        C.due("all(3), far from the first", x.all(3), 1);
+        x.set(3, 2, 7);
+        C.due("all(3), now the first", x.all(3), 0);
     }
 
     private static void whenHasABound() {
@@ -177,6 +196,12 @@ public final class TidesTest {
         C.due("walk(3)", x.walk(3), 4);
         Check.sheet(x, 0, 2);
         C.due("a walk of no PLACES", x.walk(0), 0);
+        EdgesOff y = new EdgesOff();
+        y.piece(0, 0, 31, 7);
+        Check.sheet(y, 0, 0, 7);
+        C.due("SHARP 31 hurts", y.walk(0), 1);
+        y.set(2, 0, 30);
+        C.due("SHARP 30 does not", y.walk(0), 0);
     }
 
     private static void walkRefuses() {

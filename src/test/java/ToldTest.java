@@ -6,6 +6,7 @@ public final class ToldTest {
     public static void main(String[] args) {
         tellsOfWhatIsSo();
         tellsOfWhatIsOtherwise();
+        tellsOfTheSharpest();
         tellsOfTexts();
         tellsRefuses();
         filmMakesASheet();
@@ -13,6 +14,8 @@ public final class ToldTest {
         drawnBySeeds();
         chanceInLowestTerms();
         imageAndBack();
+        backLeavesNothing(102, 105);
+        backLeavesNothing(105, 102);
         countRefuses();
         C.end();
     }
@@ -62,6 +65,20 @@ public final class ToldTest {
         Check.sheet(y, 2, 0, 90, 79);
         C.due("PLACES, another one", y.tells(2, 0, 5), 1 << 10);
         C.due("the first otherwise", y.tells(2, 0, 0), 1);
+    }
+
+    private static void tellsOfTheSharpest() {
+        EdgesOff x = new EdgesOff();
+        x.piece(0, 0, 5, 0);
+        Check.sheet(x, 0, 0, 99, 97);
+        C.due("SHARPS up to 99", x.tells(0, 0, 3), 1);
+        C.due("the least is 99", x.tells(0, 0, 4), 99);
+        Check.sheet(x, 0, 2, 100, 98);
+        C.due("SHARPS not up to 100", x.tells(0, 0, 3), 0);
+        C.due("none is the least", x.tells(0, 0, 4), EdgesOff.NONE);
+        Check.sheet(x, 0, 2, 0, 0, 0);
+        C.due("SHARPS from 0", x.tells(0, 0, 3), 1);
+        C.due("the least is 0", x.tells(0, 0, 4), 0);
     }
 
     private static void tellsOfTexts() {
@@ -236,6 +253,36 @@ public final class ToldTest {
         C.due("back() to the newer", x.back(), 3);
         C.due("SHARP of the newer", x.told(2, 2), 4);
         C.due("KIND of the newer", x.told(2, 5), 4);
+    }
+
+    /** What lay beyond the image's pieces is in nothing that is told then. */
+    private static void backLeavesNothing(int gone, int goneToo) {
+        EdgesOff x = new EdgesOff();
+        x.piece(1, 1, 40, 2);
+        x.piece(0, 2, 20, 102);
+        x.image();
+        x.piece(5, 1, 99, gone);
+        x.piece(0, 1, 99, goneToo);
+        x.back();
+        Check.sheet(x, 0, 0, 5);
+        Check.sheet(x, 1, 0, 99);
+        C.due("walk", x.walk(0), 0);
+        C.due("WEARS", x.told(0, 6), 3);
+        C.due("CLASHES", x.told(0, 7), 2);
+        C.due("which are there", x.told(2, 8), 3);
+        C.due("SHARP together", x.run(0, 0, 2), 60);
+        C.due("PLACES with any", x.all(2), 1);
+        C.due("FAR OUT", x.all(3), 0);
+        C.due("twos", x.twos(6), 0);
+        C.due("jars", x.jars(1), 12);
+        C.due("mean", x.mean(0), 30);
+        C.due("PIECES that it is told of", x.tells(1, 0, 7), 0);
+        C.due("taken", x.taken(2, 5), -11);
+        C.due("can", x.can(0, 2), EdgesOff.BAD);
+        x.set(2, 0, 0);
+        x.set(2, 1, 0);
+        C.due("WHEN", x.all(0), 0);
+        C.due("ROUND", x.all(1), 2);
     }
 
     private static void countRefuses() {
