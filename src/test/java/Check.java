@@ -1,13 +1,40 @@
+import java.io.IOException;
+import java.nio.charset.StandardCharsets;
+import java.nio.file.Files;
+import java.nio.file.Path;
+import java.util.ArrayList;
+import java.util.List;
+
 /** Counts the answers that are not as due; a test's main method ends with end(). */
 final class Check {
+    private static final Path DOCUMENT = Path.of("../shared/DOC.md");
+
     private int seen = 0;
     private int wrong = 0;
+    private int seenAhead = 0;
+    private String held = "";
+    private final List<String> sentences = new ArrayList<>();
+
+    /** What is asked from here on holds these words of the document, which are told with what is not as due. */
+    void sentence(String words) {
+        endsSentence();
+        sentences.add(words);
+        held = "[" + words + "] ";
+    }
+
+    private void endsSentence() {
+        if (!held.isEmpty() && seen == seenAhead) {
+            wrong++;
+            System.out.println(held + "has no test");
+        }
+        seenAhead = seen;
+    }
 
     void due(String call, long got, long want) {
         seen++;
         if (got != want) {
             wrong++;
-            System.out.println(call + " answered " + got + ", due is " + want);
+            System.out.println(held + call + " answered " + got + ", due is " + want);
         }
     }
 
@@ -15,14 +42,34 @@ final class Check {
         seen++;
         if (!holds) {
             wrong++;
-            System.out.println("does not hold: " + what);
+            System.out.println(held + "does not hold: " + what);
         }
     }
 
     void end() {
-        System.out.println(seen + " answers, " + wrong + " not as due");
+        endsSentence();
+        tellsWhatTheDocumentHasNoMore();
+        String of = sentences.isEmpty() ? "" : " to " + sentences.size() + " sentences";
+        System.out.println(seen + " answers" + of + ", " + wrong + " not as due");
         if (wrong != 0 || seen == 0) {
             System.exit(1);
+        }
+    }
+
+    /** Told only, since the document may be worded anew while what it asks stays. */
+    private void tellsWhatTheDocumentHasNoMore() {
+        if (sentences.isEmpty() || !Files.isReadable(DOCUMENT)) {
+            return;
+        }
+        try {
+            String document = Files.readString(DOCUMENT, StandardCharsets.UTF_8).replaceAll("\\s+", " ");
+            for (String words : sentences) {
+                if (!document.contains(words)) {
+                    System.out.println("the document does not have these words: " + words);
+                }
+            }
+        } catch (IOException e) {
+            System.out.println("the document was not read: " + e);
         }
     }
 

@@ -3,7 +3,7 @@ import java.util.Random;
 /** Runs of drawn calls, with ordinary and with wrong numbers, whose answers must be the model's. */
 public final class ModelTest {
     private static final Check C = new Check();
-    private static final int RUNS = 400, CALLS = 256, TEXTS = 20000;
+    private static final int RUNS = 800, CALLS = 140, TEXTS = 20000;
     private static final int[] EDGES = {-1, Integer.MIN_VALUE, Integer.MAX_VALUE, -2, 256, 1000, 100, 41, 61, 12};
 
     public static void main(String[] args) {

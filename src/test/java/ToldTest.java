@@ -180,13 +180,18 @@ public final class ToldTest {
         C.due("drawn of none", new EdgesOff().drawn(5, 40), 0);
     }
 
-    private static void chanceInLowestTerms() {
+    private static EdgesOff fiveInStorms() {
         EdgesOff x = Check.under("9", "0", "1");
         for (int i = 0; i < 5; i++) {
             x.piece(0, 0, 50, i);
         }
+        return x;
+    }
+
+    private static void chanceInLowestTerms() {
         for (int seed : new int[] {0, 3, -7, MAX}) {
             for (int m = 1; m <= 20; m++) {
+                EdgesOff x = fiveInStorms();
                 for (int k = 0; k <= 8; k++) {
                     int those = 0;
                     for (int i = 0; i < m; i++) {
@@ -198,6 +203,7 @@ public final class ToldTest {
                 }
             }
         }
+        EdgesOff x = fiveInStorms();
         for (int v : new int[] {-1, 21, MIN, MAX}) {
             C.due("chance(0, " + v + ", 0, 0)", x.chance(0, v, 0, 0), EdgesOff.NO);
             C.due("chance(0, 1, " + v + ", 0)", x.chance(0, 1, v, 0), EdgesOff.NO);
