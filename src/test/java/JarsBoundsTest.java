@@ -10,6 +10,7 @@ public final class JarsBoundsTest {
         jarsOfNone();
         jarsFromOneToEight();
         jarsAreTheFirstOfAsFew();
+        jarsAreThoseOfNow();
         leaveOutOfLikeOnes();
         leaveOutOfOne();
         eitherClashes();
@@ -20,6 +21,7 @@ public final class JarsBoundsTest {
         twosAreTheMost();
         tossHasBounds();
         tossOfLikePlaces();
+        tossHas12Places();
         tossHas60();
         tossIsAsWereItNow();
         meanHasBounds();
@@ -91,6 +93,21 @@ public final class JarsBoundsTest {
         }
         C.due("jars(0) of a ring and more", y.jars(0), jarsByAllWays(y, 5)[0]);
         C.due("jars(1) of a ring and more", y.jars(1), jarsByAllWays(y, 5)[1]);
+    }
+
+    private static void jarsAreThoseOfNow() {
+        C.sentence("so that no two that CAN'T are in one");
+        EdgesOff x = new EdgesOff();
+        for (int i = 0; i < 3; i++) {
+            x.piece(GREEN, i, 5, 0);
+        }
+        jars("three that may not be together", x, 3, 123, 0, 2);
+        for (int i = 0; i < 3; i++) {
+            x.set(1, i, 4);
+        }
+        jars("the same, now that they may", x, 1, 111, 0, 1);
+        x.set(1, 2, 5);
+        jars("the same, but for the last", x, 2, 112, 2, 1);
     }
 
     /** The fewest jars and the first way, by going through all numbers of so many digits. */
@@ -272,6 +289,14 @@ public final class JarsBoundsTest {
         x.set(2, 0, 1);
         C.due("toss(0, 0) of SHARP 1", x.toss(0, 0), 0);
         C.due("toss(0, 1) of SHARP 1", x.toss(0, 1), 1);
+    }
+
+    private static void tossHas12Places() {
+        C.sentence("11 round: behind 11 is 0.");
+        EdgesOff x = Check.under("1+9*(place=12)+9*(place=0-1)", "0", "1");
+        x.piece(PIECE, 0, 10, 3);
+        C.due("toss(0, 0), soonest where no PLACE is", x.toss(0, 0), 0);
+        C.due("toss(0, 1), soonest where no PLACE is", x.toss(0, 1), 10);
     }
 
     private static void tossHas60() {

@@ -96,6 +96,8 @@ public final class LanguageTest {
             for (Field f : one.getDeclaredFields()) {
                 fields += Modifier.isStatic(f.getModifiers()) ? 0 : 1;
                 C.holds("rule 5: static means final: " + f, !Modifier.isStatic(f.getModifiers()) || Modifier.isFinal(f.getModifiers()));
+                C.holds("rule 5: a static field's type: " + f, !Modifier.isStatic(f.getModifiers()) || Set.of("int", "long",
+                        "boolean", "char", "String", "int[]", "long[]", "char[]", "byte[]").contains(f.getType().getSimpleName()));
             }
             C.holds("rule 11: twenty fields at most: " + one, fields <= 20);
         }
@@ -115,6 +117,7 @@ public final class LanguageTest {
         }
         C.holds("rule 2: no lambda, no method reference", !bare.contains("->") && !bare.contains("::"));
         C.holds("rule 5: no static block", !Pattern.compile("\\bstatic\\s*\\{").matcher(bare).find());
+        C.holds("rule 10: texts are not joined by +", !Pattern.compile("\"\"\\s*\\+|\\+\\s*\"\"").matcher(bare).find());
         C.holds("rule 9: no loop without an end", !Pattern.compile("while\\s*\\(\\s*true|for\\s*\\([^;]*;\\s*;").matcher(bare).find());
     }
 
@@ -149,9 +152,23 @@ public final class LanguageTest {
             }
         }
         C.holds("all methods were found", calls.size() > 80 && calls.containsKey("EdgesOff"));
+        onlyWhatTheRulesName(calls);
         for (String from : calls.keySet()) {
             List<String> deepest = deepest(from, calls, new ArrayList<>());
             C.holds("rule 11: eight deep at most: " + deepest, deepest.size() <= 8);
+        }
+    }
+
+    private static void onlyWhatTheRulesName(Map<String, Set<String>> calls) {
+        Set<String> may = new TreeSet<>(Set.of("if", "for", "while", "switch", "max", "min", "abs", "floorMod", "fill", "copyOf",
+                "arraycopy", "bitCount", "charAt", "indexOf"));
+        for (Class<?> one : EdgesOff.class.getDeclaredClasses()) {
+            may.add(one.getSimpleName());
+        }
+        for (Map.Entry<String, Set<String>> one : calls.entrySet()) {
+            for (String to : one.getValue()) {
+                C.holds("rule 4: " + one.getKey() + " calls " + to, may.contains(to) || calls.containsKey(to));
+            }
         }
     }
 

@@ -23,6 +23,7 @@ public final class PiecesBoundsTest {
         toldOfClashesHasNoBitOfItsOwn();
         carriedRefuses();
         apartIsTheLesserWay();
+        calledUpTo512Times();
         C.end();
     }
 
@@ -277,6 +278,20 @@ public final class PiecesBoundsTest {
                     C.due(one + " and " + other + " are " + apart + " APART", x.told(0, 7), isSo ? 2 : 0);
                 }
             }
+        }
+    }
+
+    private static void calledUpTo512Times() {
+        C.sentence("An object is used for at most 512 calls after it has been made");
+        EdgesOff x = new EdgesOff();
+        x.piece(5, 9, 99, 111);
+        for (int i = 2; i <= 511; i++) {
+            C.due("call " + i, x.tide(), 0);
+        }
+        C.due("call 512", x.told(0, 0), 510);
+        EdgesOff y = new EdgesOff();
+        for (int i = 1; i <= 512; i++) {
+            C.due("call " + i, y.set(0, 0, i), i - 1);
         }
     }
 }

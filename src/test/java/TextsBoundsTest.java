@@ -33,6 +33,7 @@ public final class TextsBoundsTest {
         anIntWraps();
         trueIsOne();
         theOtherIs0();
+        ofTheOneThatIsAsked();
         textNumber0();
         C.end();
     }
@@ -453,6 +454,31 @@ public final class TextsBoundsTest {
         C.due("clashes, the other", x.told(1, 7), 0);
         C.due("wears, then", x.told(0, 6), 4);
         C.due("carries, then", x.carried(1), -3);
+    }
+
+    private static void ofTheOneThatIsAsked() {
+        C.sentence("Of one of PIECES (and, of clashes, another one)");
+        EdgesOff x = Check.under("sharp+place", "number*10+place", "place+theirs=17");
+        x.piece(0, 1, 20, 2);
+        x.piece(0, 3, 15, 104);
+        for (int again = 0; again < 2; again++) {
+            C.due("carries of the first", x.carried(0), 12);
+            C.due("carries of the second", x.carried(1), 34);
+            C.due("clashes of the first", x.told(0, 7), 2);
+            C.due("carries of the first behind clashes", x.carried(0), 12);
+            C.due("wears of the first", x.told(0, 6), 22);
+            C.due("carries of the second behind wears", x.carried(1), 34);
+            C.due("wears of the second behind its carries", x.told(1, 6), 19);
+            C.due("clashes of the second", x.told(1, 7), 0);
+            C.due("wears of the first behind clashes", x.told(0, 6), 22);
+        }
+        // of a PIECE that is ROUND nothing is worn, but where it lies is asked all the same
+        EdgesOff y = Check.under("1", "place", "1");
+        y.piece(0, 0, 9, 1);
+        y.piece(0, 0, 0, 4);
+        y.tide();
+        C.due("the first is carried by its PLACE", y.told(0, 3), 2);
+        C.due("the second, ROUND, by its own", y.told(1, 3), 8);
     }
 
     private static void textNumber0() {

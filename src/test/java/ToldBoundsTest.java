@@ -5,7 +5,7 @@ public final class ToldBoundsTest {
     private static final int MIN = Integer.MIN_VALUE, MAX = Integer.MAX_VALUE;
     private static final int BAD = EdgesOff.BAD, NONE = EdgesOff.NONE;
     private static final long NO = EdgesOff.NO;
-    private static final int PIECE = 0, GREEN = 1, FRESH = 5;
+    private static final int PIECE = 0, GREEN = 1, BROWN = 2, FRESH = 5;
 
     public static void main(String[] args) {
         tellsHasBounds();
@@ -528,5 +528,10 @@ public final class ToldBoundsTest {
         C.due("of eight alike", x.count(1), 0);
         x.set(1, 7, 1);
         C.due("the last with each", x.count(1), 7);
+        EdgesOff y = new EdgesOff();
+        y.piece(BROWN, 0, 0, 0);
+        C.due("a BROWN that is ROUND is no two with itself", y.count(1), 0);
+        y.piece(PIECE, 0, 5, 0);
+        C.due("nor with one that is not ROUND", y.count(1), 0);
     }
 }
