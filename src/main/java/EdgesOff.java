@@ -1046,7 +1046,7 @@ public final class EdgesOff {
             }
             int to = one.endOf(part);
             int top = 0;
-            for (int i = one.startOf(part); i < to; i++) {
+            for (int i = one.startOf(part); i < to && top < stack.length; i++) {
                 int token = -1 - one.code[i];
                 if (token < 0) {
                     stack[top] = one.code[i];

