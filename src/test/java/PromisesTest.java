@@ -11,7 +11,7 @@ import java.util.regex.Matcher;
 import java.util.regex.Pattern;
 
 /**
- * Each promise once, in the document's order, as rows of src/test/promises.txt that were reckoned by hand: ordinary
+ * Each promise once, in the document's order, as rows of src/test/promises.txt: ordinary
  * inputs, the edges that the document names, wrong inputs.
  */
 public final class PromisesTest {
